@@ -537,7 +537,7 @@ public final class ShareStatistics {
             int sum = 0;
             int earlier = 0;
             for (int period = 0; period < periods; period++) {
-                sum += gain(period, earlier);
+                sum += gain(counts, periods, period, earlier);
                 earlier |= 1 << period;
             }
             return sum;
@@ -552,25 +552,26 @@ public final class ShareStatistics {
         }
 
         int ordersNotBelow(int goal) {
-            return ordersBehind(0, periods, 0, goal);
+            return ordersBehind(counts, periods, 0, periods, 0, goal);
         }
 
         /** Ways to go on behind the periods that are taken (a bit each) and end not below the goal. */
-        private int ordersBehind(int taken, int open, int sum, int goal) {
+        private static int ordersBehind(int[] counts, int periods, int taken, int open, int sum, int goal) {
             if (open <= 0) {
                 return sum >= goal ? 1 : 0;
             }
             int orders = 0;
             for (int next = 0; next < periods; next++) {
                 if (!isTaken(next, taken)) {
-                    orders += ordersBehind(taken | 1 << next, open - 1, sum + gain(next, taken), goal);
+                    int sumThen = sum + gain(counts, periods, next, taken);
+                    orders += ordersBehind(counts, periods, taken | 1 << next, open - 1, sumThen, goal);
                 }
             }
             return orders;
         }
 
         /** What a period adds to the sum when it comes behind all that are taken. */
-        private int gain(int later, int taken) {
+        private static int gain(int[] counts, int periods, int later, int taken) {
             int gain = 0;
             for (int earlier = 0; earlier < periods; earlier++) {
                 if (isTaken(earlier, taken)) {

@@ -30,8 +30,14 @@ final class Check {
             body.run();
             return "nothing";
         } catch (RuntimeException e) {
-            return e.getClass().getName();
+            return nameOf(e);
         }
+    }
+
+    /** The machine's own ArithmeticException is of the class that is due, but not thrown by the program. */
+    private static String nameOf(RuntimeException e) {
+        String name = e.getClass().getName();
+        return "/ by zero".equals(e.getMessage()) ? name + " of the machine" : name;
     }
 
     boolean hasWrong() {
@@ -83,7 +89,7 @@ final class Check {
         try {
             return Integer.toString(asked.answer());
         } catch (RuntimeException e) {
-            return e.getClass().getName();
+            return nameOf(e);
         }
     }
 

@@ -59,7 +59,9 @@ public final class ModelTest {
     }
 
     private void oneCall(int call) {
-        int kindOfCall = random.nextInt(call < 150 ? 10 : 26);
+        // Every fourth run fills all 200 rows.
+        int telling = run % 4 == 0 ? 300 : 150;
+        int kindOfCall = random.nextInt(call < telling ? (run % 4 == 0 ? 7 : 10) : 26);
         if (kindOfCall < 5) {
             tellRow();
         } else if (kindOfCall < 8) {

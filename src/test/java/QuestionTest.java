@@ -8,6 +8,7 @@ public final class QuestionTest {
     public static void main(String[] args) {
         askNarrows();
         askRefusals();
+        othersDoNotCount();
         counts();
         hours();
         shares();
@@ -74,6 +75,45 @@ public final class QuestionTest {
         CHECK.refused("ask: both below 0", x, RANGE, () -> x.ask(-5, -1, -1, -1));
         CHECK.refused("ask: unknown ahead of range", x, UNKNOWN, () -> x.ask(-1, -5, 0, 10));
         CHECK.equal("ask: the question stands", x.count(0), 1);
+    }
+
+    /** Each answer of a question is its own rows', whatever stands ahead, behind or beside it. */
+    private static void othersDoNotCount() {
+        ShareStatistics x = new ShareStatistics();
+        x.define(0, 100);
+        int[][] others = {{9, 1, 1}, {21, 1, 1}, {15, 0, 1}, {15, 2, 1}, {15, 1, 0}, {15, 1, 2}};
+        for (int[] other : others) {
+            tell(x, other, 50, 50, 1);
+            tell(x, other, 0, 1, 0);
+            tell(x, other, 5000, 0, 0);
+            tell(x, other, 3, -1, 1);
+        }
+        tell(x, new int[] {10, 1, 1}, 40, 20, 1);
+        tell(x, new int[] {15, 1, 1}, 70, 0, 0);
+        tell(x, new int[] {20, 1, 1}, 80, 90, 0);
+        tell(x, new int[] {20, 1, 1}, 7, -1, 0);
+        tell(x, new int[] {20, 1, 1}, -1, 7, 0);
+        x.people(1, 1000);
+        x.ask(10, 20, 1, 1);
+        int[] want = {5, 1, 2, 2, 197};
+        for (int what = 0; what < want.length; what++) {
+            CHECK.equal("its rows alone: count(" + what + ")", x.count(what), want[what]);
+        }
+        CHECK.equal("its rows alone: hour", x.hour(7), 5);
+        CHECK.equal("its rows alone: share's upper", x.share(0), 2);
+        CHECK.equal("its rows alone: share's lower", x.share(1), 3);
+        CHECK.equal("its rows alone: placed(1)", x.placed(1), 60);
+        CHECK.equal("its rows alone: placed(100)", x.placed(100), 170);
+        CHECK.equal("its rows alone: compare with 1/2", x.compare(20, 21), 1);
+        CHECK.equal("its rows alone: compare with 1", x.compare(10, 15), -1);
+        CHECK.equal("its rows alone: perThousand", x.perThousand(1), 5);
+        CHECK.equal("its span alone: work's rows", x.work(3, 0), 21);
+        CHECK.equal("its span alone: work's seconds", x.work(3, 1), 314 + 4 * 5104);
+    }
+
+    private static void tell(ShareStatistics x, int[] dayKindArea, int turnOut, int travel, int marks) {
+        int row = x.row(dayKindArea[0], 7, dayKindArea[1], dayKindArea[2], 3, marks);
+        x.values(row, turnOut, travel);
     }
 
     private static void counts() {

@@ -89,14 +89,18 @@ public final class RowsTest {
 
     private static void rowNoRoom() {
         ShareStatistics x = new ShareStatistics();
-        for (int i = 0; i < 200; i++) {
-            CHECK.equal("row " + i, x.row(i, i % 24, i % 5, i % 10, i % 6, 0), i);
+        for (int i = 0; i < 198; i++) {
+            CHECK.equal("row " + i, x.row(i, i % 24, i % 5, i % 9, i % 6, 0), i);
         }
+        CHECK.equal("row 198, of a small area", x.row(198, 0, 0, 9, 0, 0), 198);
+        CHECK.equal("row 199, of a small area", x.row(199, 0, 0, 9, 0, 0), 199);
         CHECK.refused("the 201st row", x, NO_ROOM, () -> x.row(0, 0, 0, 0, 0, 0));
         CHECK.refused("full: a hidden row", x, NO_ROOM, () -> x.row(0, 0, 0, 0, 0, 2));
         CHECK.refused("full: unknown first", x, UNKNOWN, () -> x.row(0, 0, 5, 0, 0, 0));
         CHECK.refused("full: range first", x, RANGE, () -> x.row(10000, 0, 0, 0, 0, 0));
         CHECK.equal("full: count", x.count(0), 200);
+        CHECK.equal("full: the small area is joined", x.shown(9), -1);
+        CHECK.equal("full: with another one of 22 rows", x.joined(), 24);
         x.values(199, 9999, 9999);
         CHECK.equal("full: the last row's values", x.placed(100), 19998);
         CHECK.refused("full: values(200, ..)", x, UNKNOWN, () -> x.values(200, 1, 1));
