@@ -20,6 +20,13 @@ public final class ShareStatistics {
     private static final int HIGHEST_MARK = 20000;
     private static final int NO_MARK = -1;
 
+    private static final int COUNT_ROWS = 0;
+    private static final int COUNT_FALSE = 1;
+    private static final int COUNT_WITHIN = 2;
+    private static final int COUNT_WITHOUT = 3;
+    private static final int COUNT_TURN_OUT = 4;
+    private static final int COUNTS = 5;
+
     private static final int HUNDRED = 100;
     private static final int THOUSAND = 1000;
     private static final int MOST_PEOPLE = 1000000;
@@ -99,20 +106,8 @@ public final class ShareStatistics {
     }
 
     public int count(int what) throws IllegalArgumentException {
-        switch (what) {
-            case 0:
-                return incidents.number(askedFrom, askedTo, askedKind, askedArea);
-            case 1:
-                return incidents.falseAlarms(askedFrom, askedTo, askedKind, askedArea);
-            case 2:
-                return rowsWithin(askedFrom, askedTo);
-            case 3:
-                return rowsWithout(askedFrom, askedTo);
-            case 4:
-                return incidents.turnOutSeconds(askedFrom, askedTo, askedKind, askedArea);
-            default:
-                throw new IllegalArgumentException("no such count");
-        }
+        refuseUnknown(what, COUNTS);
+        return askedTotal(what, askedFrom, askedTo);
     }
 
     public int hour(int hour) throws IndexOutOfBoundsException {
@@ -216,16 +211,16 @@ public final class ShareStatistics {
                 : incidents.secondsOfStation(station, askedFrom, askedTo);
     }
 
+    private int askedTotal(int what, int from, int to) {
+        return incidents.total(what, definitions, from, to, askedKind, askedArea);
+    }
+
     private int rowsWithin(int from, int to) {
-        return incidents.within(definitions, from, to, askedKind, askedArea);
+        return askedTotal(COUNT_WITHIN, from, to);
     }
 
     private int rowsNotWithout(int from, int to) {
-        return incidents.number(from, to, askedKind, askedArea) - rowsWithout(from, to);
-    }
-
-    private int rowsWithout(int from, int to) {
-        return incidents.without(definitions, from, to, askedKind, askedArea);
+        return askedTotal(COUNT_ROWS, from, to) - askedTotal(COUNT_WITHOUT, from, to);
     }
 
     private int rowsOfArea(int area) {
@@ -382,44 +377,14 @@ public final class ShareStatistics {
             return number;
         }
 
-        int falseAlarms(int from, int to, int kind, int area) {
-            int number = 0;
-            for (int i = 0; i < size; i++) {
-                if (isAsked(i, from, to, kind, area) && (marks[i] & FALSE_ALARM) != 0) {
-                    number++;
-                }
-            }
-            return number;
-        }
-
-        int within(Definitions definitions, int from, int to, int kind, int area) {
-            int number = 0;
-            for (int i = 0; i < size; i++) {
-                if (isAsked(i, from, to, kind, area) && isWithin(i, definitions.markOn(days[i]))) {
-                    number++;
-                }
-            }
-            return number;
-        }
-
-        int without(Definitions definitions, int from, int to, int kind, int area) {
-            int number = 0;
-            for (int i = 0; i < size; i++) {
-                if (isAsked(i, from, to, kind, area) && isWithout(i, definitions.markOn(days[i]))) {
-                    number++;
-                }
-            }
-            return number;
-        }
-
-        int turnOutSeconds(int from, int to, int kind, int area) {
-            int seconds = 0;
+        int total(int what, Definitions definitions, int from, int to, int kind, int area) {
+            int total = 0;
             for (int i = 0; i < size; i++) {
                 if (isAsked(i, from, to, kind, area)) {
-                    seconds += secondsOf(turnOuts[i]);
+                    total += amount(i, what, definitions.markOn(days[i]));
                 }
             }
-            return seconds;
+            return total;
         }
 
         int inHour(int hour, int from, int to, int kind, int area) {
@@ -457,7 +422,7 @@ public final class ShareStatistics {
         int ofStation(int station, int from, int to) {
             int number = 0;
             for (int i = 0; i < size; i++) {
-                if (isAsked(i, from, to, ANY, ANY) && stations[i] == station) {
+                if (isWork(i, station, from, to)) {
                     number++;
                 }
             }
@@ -467,11 +432,33 @@ public final class ShareStatistics {
         int secondsOfStation(int station, int from, int to) {
             int seconds = 0;
             for (int i = 0; i < size; i++) {
-                if (isAsked(i, from, to, ANY, ANY) && stations[i] == station) {
+                if (isWork(i, station, from, to)) {
                     seconds += secondsOf(turnOuts[i]) + secondsOf(travels[i]);
                 }
             }
             return seconds;
+        }
+
+        /** What one row adds to a count, with the mark of its day. */
+        private int amount(int incident, int what, int mark) {
+            switch (what) {
+                case COUNT_ROWS:
+                    return 1;
+                case COUNT_FALSE:
+                    return (marks[incident] & FALSE_ALARM) != 0 ? 1 : 0;
+                case COUNT_WITHIN:
+                    return isWithin(incident, mark) ? 1 : 0;
+                case COUNT_WITHOUT:
+                    return isWithout(incident, mark) ? 1 : 0;
+                case COUNT_TURN_OUT:
+                    return secondsOf(turnOuts[incident]);
+                default:
+                    return 0;
+            }
+        }
+
+        private boolean isWork(int incident, int station, int from, int to) {
+            return stations[incident] == station && isAsked(incident, from, to, ANY, ANY);
         }
 
         private boolean isAsked(int incident, int from, int to, int kind, int area) {

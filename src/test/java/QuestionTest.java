@@ -20,7 +20,7 @@ public final class QuestionTest {
         CHECK.end("QuestionTest");
     }
 
-    /** A row of each kind and area on each of four days, in hour day, of station kind, not of all marks. */
+    /** A row of each kind and area on each of four days; each day has an hour of its own. */
     private static ShareStatistics filled() {
         ShareStatistics x = new ShareStatistics();
         for (int i = 0; i < 200; i++) {
